@@ -419,17 +419,6 @@ public final class CiderShop {
             alcohol = other.alcohol;
         }
 
-        /** Empties it too: an undone tank may have stood here before. */
-        void open(int newRoom) {
-            room = newRoom;
-            juice = 0;
-            sugar = 0;
-            acid = 0;
-            haze = 0;
-            lees = 0;
-            alcohol = 0;
-        }
-
         int left() {
             return room - juice - lees;
         }
@@ -567,7 +556,10 @@ public final class CiderShop {
         }
     }
 
-    /** One whole state; an edit that it refuses leaves it as it was. */
+    /**
+     * One whole state; an edit that it refuses leaves it as it was. The rows of lots and tanks that are not there yet
+     * hold nothing but zeros, in every state, so days and sums may pass over them as over the others.
+     */
     private static final class Books {
         int drying = 3;
         int pressHaze = 40;
@@ -692,7 +684,7 @@ public final class CiderShop {
             if (!within(tankCount, 0, MOST_TANKS - 1)) {
                 return CAPACITY_EXCEEDED;
             }
-            tanks[tankCount].open(room);
+            tanks[tankCount].room = room;
             tankCount++;
             return tankCount - 1;
         }
@@ -823,12 +815,12 @@ public final class CiderShop {
         }
 
         int passDay() {
-            for (int i = 0; i < MOST_LOTS && i < lotCount; i++) {
+            for (int i = 0; i < MOST_LOTS; i++) {
                 int dried = thousandths(lots[i].mass, drying);
                 lots[i].mass -= dried;
                 sums[DRIED] += dried;
             }
-            for (int i = 0; i < MOST_TANKS && i < tankCount; i++) {
+            for (int i = 0; i < MOST_TANKS; i++) {
                 tanks[i].passDay(settling, fermentation);
             }
             days++;
@@ -855,7 +847,7 @@ public final class CiderShop {
 
         private int applesInLots() {
             int sum = 0;
-            for (int i = 0; i < MOST_LOTS && i < lotCount; i++) {
+            for (int i = 0; i < MOST_LOTS; i++) {
                 sum += lots[i].mass;
             }
             return sum;
@@ -863,7 +855,7 @@ public final class CiderShop {
 
         private int juiceInTanks() {
             int sum = 0;
-            for (int i = 0; i < MOST_TANKS && i < tankCount; i++) {
+            for (int i = 0; i < MOST_TANKS; i++) {
                 sum += tanks[i].juice;
             }
             return sum;
@@ -871,7 +863,7 @@ public final class CiderShop {
 
         private int leesInTanks() {
             int sum = 0;
-            for (int i = 0; i < MOST_TANKS && i < tankCount; i++) {
+            for (int i = 0; i < MOST_TANKS; i++) {
                 sum += tanks[i].lees;
             }
             return sum;
@@ -977,7 +969,6 @@ public final class CiderShop {
         }
 
         private int readWord() {
-            skipSpaces();
             int end = endOf('a', 'z');
             int kind = kindOfWord(end);
             if (kind != NO_COMMAND) {

@@ -6,6 +6,7 @@ public final class ForesightTest {
         daysToSugarPassesThrough();
         daysToWrong();
         blendFor();
+        blendForAcidAndHaze();
         blendForRoom();
         blendForRoundsDown();
         blendForWrong();
@@ -22,6 +23,8 @@ public final class ForesightTest {
             shop.setLabel(1, 0, 1000, 0, 1000, hazes[i]);
             Check.due("27: haze " + hazes[i], shop.daysTo(0, 1), days[i]);
         }
+        Check.due("27: the first label", shop.daysTo(0, 0), 4);
+        Check.due("27: the last label", shop.daysTo(0, 3), 4);
         shop.setLabel(1, 0, 1000, 0, 1000, 0);
         Check.due("27: a haze of 4 stays", shop.daysTo(0, 1), Shops.NONE);
         Check.due("27: no juice", shop.daysTo(1, 1), Shops.NONE);
@@ -106,6 +109,25 @@ public final class ForesightTest {
     private static int none(CiderShop shop) {
         shop.addTank(5000);
         return shop.blendFor(2, 3, 1);
+    }
+
+    private static void blendForAcidAndHaze() {
+        CiderShop shop = Shops.clear(0, 100, 0, 0);
+        shop.press(1, 2000, 1);
+        shop.setRates(0, 100, 0, 0);
+        shop.press(0, 2000, 0);
+        // n / 10 of acid and n / 10 of haze in 1000 + n
+        shop.setLabel(3, 0, 1000, 20, 1000, 1000);
+        Check.due("28: acid", shop.blendFor(0, 1, 3), 250);
+        shop.setLabel(3, 0, 1000, 20, 1000, 20);
+        Check.due("28: just the haze that is allowed", shop.blendFor(0, 1, 3), 250);
+        shop.setLabel(3, 0, 1000, 20, 1000, 19);
+        Check.due("28: too much haze", shop.blendFor(0, 1, 3), Shops.NONE);
+        // the other way, 1000 / (1000 + n) of the acid and the haze
+        shop.setLabel(3, 0, 1000, 0, 1000, 50);
+        Check.due("28: haze made thin", shop.blendFor(1, 0, 3), 961);
+        shop.setLabel(3, 0, 1000, 0, 80, 1000);
+        Check.due("28: acid made thin", shop.blendFor(1, 0, 3), 235);
     }
 
     private static void blendForRoom() {

@@ -100,6 +100,7 @@ public final class LookingTest {
             Check.due("24: why", shop.why(0, 3), r[5]);
         }
         Check.due("24: the reason stays", shop.count(4), 0);
+        Check.due("24: label 0", shop.why(0, 0), 6);
         Check.due("24: tank -1", shop.why(-1, 0), Shops.INVALID);
         Check.due("24: tank 2", shop.why(2, 0), Shops.INVALID);
         Check.due("24: label -1", shop.why(0, -1), Shops.INVALID);
@@ -129,7 +130,7 @@ public final class LookingTest {
             gone += shop.account(what);
         }
         Check.due("25: both ways", gone, 3110);
-        Check.due("25: lees in tanks", shop.account(10) > 0 ? 1 : 0, 1);
+        Check.due("25: lees of both tanks", busy().account(10), 4);
         Check.due("25: -1", shop.account(-1), Shops.INVALID);
         Check.due("25: 11", shop.account(11), Shops.INVALID);
     }

@@ -77,6 +77,11 @@ public final class TradeTest {
         Check.due("7: sugar adds up", shop.tank(1, 2), 85);
         Check.due("7: the lot is empty", shop.lot(0, 1), 0);
         Check.due("7: the lot stands", shop.count(0), 1);
+        shop.buy(5, 1000);
+        shop.setVariety(5, 300, 10, 20);
+        Check.due("7: the last variety", shop.press(1, 1000, 0), 300);
+        Check.due("7: its sugar", shop.tank(0, 2), 3);
+        Check.due("7: its acid", shop.tank(0, 3), 6);
     }
 
     private static void pressRefused() {
@@ -182,6 +187,10 @@ public final class TradeTest {
             Check.due("10: all " + what, shop.tank(1, what), all[what]);
         }
         Check.due("10: little haze goes along as none", shop.move(1, 1, 0), 0);
+        shop.rack(0, 1);
+        Check.due("10: all but one", shop.move(1, 297, 0), 9);
+        Check.due("10: the last one's haze", shop.move(1, 1, 0), 1);
+        Check.due("10: the last one's sugar", shop.tank(0, 2), 29);
     }
 
     private static void moveRefused() {
@@ -219,6 +228,10 @@ public final class TradeTest {
         Check.due("11: as there is", shop.rack(0, 1), 198);
         Check.due("11: lees stay", shop.tank(0, 5), 2);
         Check.due("11: alcohol goes", shop.tank(1, 6), 1);
+        shop.move(1, 1, 0);
+        Check.due("11: a juice of 1", shop.rack(0, 1), 1);
+        shop.move(2, 1, 1);
+        Check.due("11: a room of 1", shop.rack(1, 2), 1);
         Check.due("11: from -1", shop.rack(-1, 1), Shops.INVALID);
         Check.due("11: from 3", shop.rack(3, 1), Shops.INVALID);
         Check.due("11: to -1", shop.rack(1, -1), Shops.INVALID);
@@ -233,6 +246,8 @@ public final class TradeTest {
         shop.day();
         Check.due("12: juice in it", shop.clean(0), Shops.ILLEGAL);
         Check.due("12: reason", shop.count(4), 13);
+        shop.move(0, 297, 1);
+        Check.due("12: a juice of 1 in it", shop.clean(0), Shops.ILLEGAL);
         shop.rack(0, 1);
         Check.due("12: lees", shop.clean(0), 2);
         Check.due("12: none left", shop.tank(0, 5), 0);
