@@ -81,8 +81,8 @@ public final class ScriptTest {
             {"press;", 5}, {"press 0,1", 7}, {"press x", 6}, {"press 0 1 0x;", 11}, {"wet 0;", 5}, {"wet 0 0 0;", 8},
             {"move 0 0;", 8}, {"move 0 0 0 0;", 11}, {"rack 0;", 6}, {"rack 0 0 0;", 9}, {"clean;", 5},
             {"clean 0 0;", 8}, {"bottle 0 0 0;", 12}, {"bottle 0 0 0 0 0;", 15}, {"day;\tday;", 4},
-            {"day\u00ff;", 3}, {"pour 0;", 0}, {"say;", 0}, {"bet 0 0;", 0}, {"dry;", 0}, {"rank 0 0;", 0}, {"cleat 0;", 0},
-            {"sell;", 0}, {"day;day;1day;", 8}, {"wet 1 0;wet", 11},
+            {"day\u00ff;", 3}, {"pour 0;", 0}, {"say;", 0}, {"bet 0 0;", 0}, {"dry;", 0}, {"rank 0 0;", 0},
+            {"cleat 0;", 0}, {"sell;", 0}, {"day;day;1day;", 8}, {"wet 1 0;wet", 11},
             {"\u0000day;", 0}, {"clean -1;", 6}, {"`day;", 0}, {"{day;", 0}, {"clean :;", 6}, {"clean /;", 6}};
         for (Object[] row : rows) {
             CiderShop shop = Shops.small();
