@@ -10,6 +10,14 @@ public final class ForesightTest {
         blendForRoom();
         blendForRoundsDown();
         blendForWrong();
+        daysToWithoutJuice();
+        daysToAllowedNow();
+        daysToWithTheRatesOfNow();
+        blendForAllowedNow();
+        blendForUpToTheJuice();
+        blendForUpToTheRoom();
+        blendForBesideLees();
+        foresightChangesNothing();
         Check.finish("ForesightTest");
     }
 
@@ -165,5 +173,144 @@ public final class ForesightTest {
         Check.due("28: the same", shop.blendFor(1, 1, 0), Shops.INVALID);
         Check.due("28: label -1", shop.blendFor(0, 1, -1), Shops.INVALID);
         Check.due("28: label 4", shop.blendFor(0, 1, 4), Shops.INVALID);
+    }
+
+    /** "NONE if there is none": no day brings juice into a tank. */
+    private static void daysToWithoutJuice() {
+        CiderShop shop = Shops.small();
+        shop.setLabel(0, 0, 1000, 0, 1000, 1000);
+        Check.due("27: an empty tank", shop.daysTo(0, 0), Shops.NONE);
+        shop.setRates(0, 100, 500, 0);
+        shop.press(0, 500, 0);
+        shop.day();
+        shop.pour(0);
+        Check.due("27: lees alone", shop.daysTo(0, 0), Shops.NONE);
+        shop.press(0, 2, 0);
+        Check.due("27: a juice of 1", shop.daysTo(0, 0), 0);
+    }
+
+    /** "Returns 0 if it allows it now": also if it would not any more a day later. */
+    private static void daysToAllowedNow() {
+        CiderShop shop = Shops.clear(100, 0, 0, 0);
+        shop.press(0, 2000, 0);
+        shop.setRates(0, 0, 0, 300);
+        shop.setLabel(0, 100, 100, 0, 1000, 0);
+        Check.due("27: now", shop.daysTo(0, 0), 0);
+        shop.day();
+        Check.due("27: now no more", shop.daysTo(0, 0), Shops.NONE);
+        shop.setLabel(0, 0, 49, 0, 1000, 0);
+        Check.due("27: the next day", shop.daysTo(0, 0), 1);
+        shop.day();
+        Check.due("27: then now", shop.daysTo(0, 0), 0);
+    }
+
+    /** "if nothing else is done": with the rates as they are, each day after the other. */
+    private static void daysToWithTheRatesOfNow() {
+        CiderShop shop = Shops.clear(100, 50, 0, 0);
+        shop.setRates(0, 100, 0, 0);
+        shop.press(0, 2000, 0);
+        shop.setLabel(0, 0, 1000, 0, 1000, 30);
+        Check.due("27: nothing settles", shop.daysTo(0, 0), Shops.NONE);
+        shop.setRates(0, 0, 500, 0);
+        // haze 100 of 1000: 50 of 950 are 52, 25 of 925 are 27
+        Check.due("27: half of it settles", shop.daysTo(0, 0), 2);
+        // the juice becomes less, so the acid of 50 becomes more: 52 of 950, 54 of 925
+        shop.setLabel(1, 0, 1000, 54, 1000, 1000);
+        Check.due("27: acid", shop.daysTo(0, 1), 2);
+        shop.setLabel(1, 105, 107, 0, 1000, 1000);
+        Check.due("27: sugar", shop.daysTo(0, 1), 1);
+        shop.setLabel(1, 0, 1000, 54, 1000, 27);
+        Check.due("27: both at once", shop.daysTo(0, 1), 2);
+        shop.setLabel(1, 0, 1000, 0, 53, 27);
+        Check.due("27: never both", shop.daysTo(0, 1), Shops.NONE);
+    }
+
+    /** "0 if the label allows it now": even if nothing can be moved. */
+    private static void blendForAllowedNow() {
+        CiderShop shop = Shops.clear(100, 0, 0, 0);
+        shop.addTank(10);
+        shop.press(1, 20, 2);
+        Check.due("28: nothing to move", shop.blendFor(0, 2, 0), 0);
+        shop.press(0, 2000, 0);
+        Check.due("28: no room", shop.tank(2, 7), 0);
+        Check.due("28: nor room for it", shop.blendFor(0, 2, 0), 0);
+        shop.setLabel(0, 1, 1000, 0, 1000, 0);
+        Check.due("28: no room for what it needs", shop.blendFor(0, 2, 0), Shops.NONE);
+        Check.due("28: nothing to move from", shop.blendFor(1, 2, 0), Shops.NONE);
+        Check.due("28: nor from one to an empty one", shop.blendFor(1, 0, 0), 0);
+    }
+
+    /** "up to the juice of the one": all of it, and no more. */
+    private static void blendForUpToTheJuice() {
+        CiderShop shop = Shops.clear(200, 0, 0, 0);
+        shop.press(1, 2000, 1);
+        shop.setLabel(0, 50, 1000, 0, 1000, 0);
+        int[] masses = {668, 670, 672};
+        // 334 of juice have 66 of sugar: 49 of 1334; 335 have 67: 50 of 1335; of 336 with 67, 335 take but 66 along
+        int[] dues = {Shops.NONE, 335, 336};
+        for (int i = 0; i < masses.length; i++) {
+            shop.press(0, masses[i], 0);
+            Check.due("28: of " + shop.tank(0, 1), shop.blendFor(0, 1, 0), dues[i]);
+            shop.pour(0);
+        }
+        CiderShop one = Shops.clear(0, 0, 0, 0);
+        one.press(0, 2, 0);
+        Check.due("28: a juice of 1", one.blendFor(0, 1, 0), 1);
+    }
+
+    /** "and the room that is left in the other one": all of it, and no more. */
+    private static void blendForUpToTheRoom() {
+        CiderShop shop = Shops.clear(1, 0, 0, 0);
+        shop.press(0, 10000, 0);
+        // of the 5 of sugar in 5000, 1 goes along with 1000; beside a juice of 1 without sugar, it is less than 1 for 1000
+        shop.setLabel(0, 1, 1000, 0, 1000, 0);
+        Check.due("28: of a full tank", shop.blendFor(0, 1, 0), 1000);
+        shop.press(1, 2, 1);
+        Check.due("28: beside a juice of 1", shop.blendFor(0, 1, 0), Shops.NONE);
+        shop.undo();
+        shop.addTank(999);
+        Check.due("28: room for 999", shop.blendFor(0, 2, 0), Shops.NONE);
+        shop.addTank(1000);
+        Check.due("28: room for 1000", shop.blendFor(0, 3, 0), 1000);
+    }
+
+    /** The lees of the other tank take of its room. */
+    private static void blendForBesideLees() {
+        CiderShop shop = Shops.clear(11, 0, 0, 0);
+        shop.addTank(100);
+        shop.setRates(0, 100, 500, 0);
+        shop.press(1, 200, 2);
+        shop.day();
+        shop.pour(2);
+        shop.setRates(0, 0, 0, 0);
+        shop.setLabel(0, 1, 1000, 0, 1000, 1000);
+        Check.due("28: lees", shop.tank(2, 7), 95);
+        shop.press(0, 380, 0);
+        Check.due("28: of 190 with 2 sugar, 95", shop.blendFor(0, 2, 0), 95);
+        shop.pour(0);
+        shop.press(0, 384, 0);
+        Check.due("28: of 192 with 2 sugar, 96", shop.blendFor(0, 2, 0), Shops.NONE);
+        shop.clean(2);
+        Check.due("28: without the lees", shop.blendFor(0, 2, 0), 96);
+    }
+
+    /** "(nothing changes, the reason neither)" */
+    private static void foresightChangesNothing() {
+        CiderShop shop = Shops.busy();
+        shop.clean(1);
+        Shops.type(shop, "day;");
+        String before = Shops.whole(shop);
+        int[] labels = {0, 1, 3, -1, 4};
+        for (int label : labels) {
+            for (int tank = -1; tank <= 2; tank++) {
+                shop.daysTo(tank, label);
+                Check.due("27: nothing changes", Shops.whole(shop), before);
+                shop.blendFor(tank, 0, label);
+                shop.blendFor(1, tank, label);
+                Check.due("28: nothing changes", Shops.whole(shop), before);
+            }
+        }
+        Check.due("27: the reason neither", shop.count(4), 13);
+        Check.due("27: nor the text", shop.runScript(), 1);
     }
 }

@@ -5,6 +5,9 @@ final class Shops {
     static final int FULL = CiderShop.CAPACITY_EXCEEDED;
     static final int NONE = CiderShop.NONE;
 
+    /** How many kinds of edits there are. */
+    static final int EDITS = 15;
+
     private Shops() {
     }
 
@@ -40,6 +43,52 @@ final class Shops {
         shop.addTank(5000);
         shop.addTank(5000);
         return shop;
+    }
+
+    /** A shop with juice, lees, alcohol, a heap and six saved states, in which each of the edits goes. */
+    static CiderShop busy() {
+        CiderShop shop = small();
+        shop.setLabel(1, 0, 1000, 0, 1000, 1000);
+        shop.press(0, 500, 0);
+        shop.day();
+        shop.rack(0, 1);
+        return shop;
+    }
+
+    /** Makes the edit of this kind, in a busy shop; a script is typed first. */
+    static int edit(CiderShop shop, int kind) {
+        switch (kind) {
+            case 0:
+                return shop.setVariety(5, 400, 30, 20);
+            case 1:
+                return shop.setRates(1, 2, 3, 4);
+            case 2:
+                return shop.setLabel(2, 1, 2, 3, 4, 5);
+            case 3:
+                return shop.buy(4, 700);
+            case 4:
+                return shop.addTank(70);
+            case 5:
+                return shop.press(0, 100, 0);
+            case 6:
+                return shop.wet(30, 0);
+            case 7:
+                return shop.sellPomace();
+            case 8:
+                return shop.move(1, 100, 0);
+            case 9:
+                return shop.rack(1, 0);
+            case 10:
+                return shop.clean(0);
+            case 11:
+                return shop.pour(1);
+            case 12:
+                return shop.bottle(1, 1, 2, 20);
+            case 13:
+                return shop.day();
+            default:
+                return run(shop, "press 0 10 1;day;");
+        }
     }
 
     /** A saved state as far as it can be seen: everything but the text, the reason and the number of saved states. */
