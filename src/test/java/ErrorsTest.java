@@ -146,7 +146,7 @@ public final class ErrorsTest {
         shop.press(0, 10, 3);
         Check.due("full: wet with too much", shop.wet(20001, 0), Shops.INVALID);
         Check.due("full: wet with less than none", shop.wet(-1, 0), Shops.INVALID);
-        while (shop.count(5) < 100) {
+        for (int length = 9; length <= 100; length++) {
             shop.appendCharacter(' ');
         }
         Check.due("a full text", shop.appendCharacter(256), Shops.INVALID);
@@ -256,7 +256,7 @@ public final class ErrorsTest {
         int[] answers = {600, 0, 0, 0, 0};
         for (int i = 0; i < edits.length; i++) {
             CiderShop shop = crowded();
-            String before = Shops.state(shop);
+            String before = Shops.state(crowded());
             Check.due("idle edit " + i, edits[i].by(shop), answers[i]);
             Check.due("idle edit: the reason", shop.count(4), 0);
             Check.due("idle edit: the state", Shops.state(shop), before);
@@ -294,7 +294,7 @@ public final class ErrorsTest {
             dueInvalid("other error " + i, calls[i]);
         }
         CiderShop shop = crowded();
-        while (shop.count(5) < 100) {
+        for (int length = 9; length <= 100; length++) {
             shop.appendCharacter(' ');
         }
         Check.due("a full text", shop.appendCharacter(' '), Shops.FULL);
@@ -310,13 +310,15 @@ public final class ErrorsTest {
         Refused[] calls = {s -> s.count(0), s -> s.lot(0, 1), s -> s.variety(0, 0), s -> s.tank(0, 1),
             s -> s.share(0, 0), s -> s.why(1, 0), s -> s.account(0), s -> s.bottles(0, 0), s -> s.daysTo(1, 0),
             s -> s.blendFor(1, 3, 0)};
-        CiderShop shop = Shops.busy();
-        shop.undo();
-        String before = Shops.whole(shop);
         for (int i = 0; i < calls.length; i++) {
+            CiderShop shop = Shops.busy();
+            String before = Shops.whole(shop);
             calls[i].by(shop);
             Check.due("looking " + i, Shops.whole(shop), before);
         }
+        CiderShop shop = Shops.busy();
+        shop.undo();
+        String before = Shops.whole(shop);
         shop.appendCharacter('x');
         shop.clearText();
         Check.due("a text that came and went", Shops.whole(shop), before);

@@ -7,6 +7,7 @@ public final class ForesightTest {
         daysToWrong();
         blendFor();
         blendForAcidAndHaze();
+        blendForEach();
         blendForRoom();
         blendForRoundsDown();
         blendForWrong();
@@ -136,6 +137,28 @@ public final class ForesightTest {
         Check.due("28: haze made thin", shop.blendFor(1, 0, 3), 961);
         shop.setLabel(3, 0, 1000, 0, 80, 1000);
         Check.due("28: acid made thin", shop.blendFor(1, 0, 3), 235);
+    }
+
+    /** Each of sugar, acid and haze goes along for itself. */
+    private static void blendForEach() {
+        // sugar, acid and haze for 1000 units of juice, in a tank of 1000 that is moved into another one of pure 1000
+        int[][] rows = {{200, 0, 0}, {0, 100, 0}, {0, 0, 100}, {200, 100, 0}, {200, 0, 100}, {0, 100, 100}};
+        for (int[] r : rows) {
+            CiderShop shop = Shops.clear(r[0], r[1], 0, 0);
+            shop.press(1, 2000, 1);
+            shop.setRates(0, r[2], 0, 0);
+            shop.press(0, 2000, 0);
+            shop.setLabel(0, 20, 1000, 0, 1000, 1000);
+            Check.due("28: sugar of " + r[0], shop.blendFor(0, 1, 0), r[0] == 0 ? Shops.NONE : 115);
+            shop.setLabel(0, 0, 1000, 20, 1000, 1000);
+            Check.due("28: acid of " + r[1], shop.blendFor(0, 1, 0), r[1] == 0 ? Shops.NONE : 250);
+            shop.setLabel(0, 0, 19, 0, 1000, 1000);
+            Check.due("28: less sugar than " + r[0], shop.blendFor(1, 0, 0), r[0] == 0 ? 0 : Shops.NONE);
+            shop.setLabel(0, 0, 1000, 0, 60, 1000);
+            Check.due("28: less acid than " + r[1], shop.blendFor(1, 0, 0), r[1] == 0 ? 0 : 640);
+            shop.setLabel(0, 0, 1000, 0, 1000, 60);
+            Check.due("28: less haze than " + r[2], shop.blendFor(1, 0, 0), r[2] == 0 ? 0 : 640);
+        }
     }
 
     private static void blendForRoom() {
@@ -296,21 +319,25 @@ public final class ForesightTest {
 
     /** "(nothing changes, the reason neither)" */
     private static void foresightChangesNothing() {
-        CiderShop shop = Shops.busy();
-        shop.clean(1);
-        Shops.type(shop, "day;");
-        String before = Shops.whole(shop);
         int[] labels = {0, 1, 3, -1, 4};
         for (int label : labels) {
             for (int tank = -1; tank <= 2; tank++) {
+                CiderShop shop = withReasonAndText();
                 shop.daysTo(tank, label);
-                Check.due("27: nothing changes", Shops.whole(shop), before);
+                Check.due("27: nothing changes", Shops.whole(shop), Shops.whole(withReasonAndText()));
                 shop.blendFor(tank, 0, label);
                 shop.blendFor(1, tank, label);
-                Check.due("28: nothing changes", Shops.whole(shop), before);
+                Check.due("28: nothing changes", Shops.whole(shop), Shops.whole(withReasonAndText()));
+                Check.due("27: the reason neither", shop.count(4), 13);
+                Check.due("27: nor the text", shop.runScript(), 1);
             }
         }
-        Check.due("27: the reason neither", shop.count(4), 13);
-        Check.due("27: nor the text", shop.runScript(), 1);
+    }
+
+    private static CiderShop withReasonAndText() {
+        CiderShop shop = Shops.busy();
+        shop.clean(1);
+        Shops.type(shop, "day;");
+        return shop;
     }
 }

@@ -1,14 +1,24 @@
 import java.util.ArrayList;
 import java.util.List;
 
-/** Long runs of mixed calls, whose answers are held against what other calls tell. */
+/**
+ * Runs of mixed calls, always the same ones, whose answers are held against what other calls tell. Nothing is promised
+ * of an object after its 512th call, so each look is a look at a new object, with which the run was done again.
+ */
 public final class RandomRunsTest {
     private static final int[] ODD = {Integer.MIN_VALUE, -1000, -1, 0, 1, 2, 7, 8, 11, 100, 5000, 5001, 20000, 20001,
         65536, Integer.MAX_VALUE};
+    private static final int UNDO = 17;
+    private static final int OBJECT_CALLS = 512;
+    /** Of a run; to look at everything after it takes up to 260 more. */
+    private static final int RUN_CALLS = OBJECT_CALLS - 260;
 
-    private final CiderShop shop = new CiderShop();
     private final List<int[]> calls = new ArrayList<>();
     private final List<String> states = new ArrayList<>();
+    private String state = Shops.state(new CiderShop());
+    private int reason = 0;
+    private int saved = 0;
+    private int made = 0;
     private long seed;
 
     private RandomRunsTest(long seed) {
@@ -16,7 +26,7 @@ public final class RandomRunsTest {
     }
 
     public static void main(String[] args) {
-        for (int run = 1; run <= 150; run++) {
+        for (int run = 1; run <= 200; run++) {
             new RandomRunsTest(run * 7919L).run();
         }
         Check.finish("RandomRunsTest");
@@ -28,9 +38,14 @@ public final class RandomRunsTest {
     }
 
     private void run() {
-        for (int i = 0; i < 300; i++) {
-            step(nextCall());
+        for (int i = 0; i < OBJECT_CALLS; i++) {
+            int[] call = nextCall();
+            if (made + callsOf(call) > RUN_CALLS) {
+                break;
+            }
+            step(call);
         }
+        CiderShop shop = again();
         for (int tank = 0; tank < shop.count(1); tank++) {
             for (int label = 0; label < 4; label++) {
                 Check.due("daysTo", shop.daysTo(tank, label), daysByLiving(tank, label));
@@ -40,6 +55,20 @@ public final class RandomRunsTest {
                 }
             }
         }
+    }
+
+    /** How many calls of the shop it is: a script is typed first. */
+    private static int callsOf(int[] call) {
+        return call[0] == 13 || call[0] == 14 ? script(call).length() + 2 : 1;
+    }
+
+    /** A new shop to which all has been done that this run did. */
+    private CiderShop again() {
+        CiderShop shop = new CiderShop();
+        for (int[] call : calls) {
+            make(shop, call);
+        }
+        return shop;
     }
 
     private int[] nextCall() {
@@ -73,47 +102,49 @@ public final class RandomRunsTest {
     }
 
     private void step(int[] call) {
-        String before = Shops.state(shop);
-        int reason = shop.count(4);
-        int saved = shop.count(6);
-        if (call[0] == 17) {
-            undo();
-            return;
-        }
+        CiderShop shop = again();
         int answer = make(shop, call);
+        calls.add(call);
+        made += callsOf(call);
+        String after = Shops.state(shop);
         String name = "call " + call[0] + ": ";
-        if (answer >= 0) {
-            calls.add(call);
-            states.add(before);
-            Check.due(name + "saved", shop.count(6), Math.min(6, saved + 1));
-            Check.due(name + "reason", shop.count(4), 0);
+        if (call[0] == UNDO) {
+            checkUndo(answer, after);
+        } else if (answer >= 0) {
+            states.add(state);
+            saved = Math.min(6, saved + 1);
+            reason = 0;
         } else {
-            Check.due(name + "state", Shops.state(shop), before);
-            Check.due(name + "saved", shop.count(6), saved);
-            if (answer != Shops.ILLEGAL && answer > -1000) {
-                Check.due(name + "reason", shop.count(4), reason);
+            Check.due(name + "state", after, state);
+            if (answer == Shops.ILLEGAL || answer <= -1000) {
+                reason = shop.count(4);
             }
         }
-        checkBalance(name);
+        Check.due(name + "reason", shop.count(4), reason);
+        Check.due(name + "saved", shop.count(6), saved);
+        checkBalance(shop, name);
+        state = after;
     }
 
-    private void undo() {
-        int saved = shop.count(6);
-        int answer = shop.undo();
-        Check.due("undo", answer, saved == 0 ? Shops.ILLEGAL : saved - 1);
-        if (saved > 0) {
-            calls.remove(calls.size() - 1);
-            Check.due("undone", Shops.state(shop), states.remove(states.size() - 1));
+    private void checkUndo(int answer, String after) {
+        if (saved == 0) {
+            Check.due("undo of none", answer, Shops.ILLEGAL);
+            Check.due("nothing undone", after, state);
+        } else {
+            saved--;
+            Check.due("undo", answer, saved);
+            Check.due("undone", after, states.remove(states.size() - 1));
         }
     }
 
-    private void checkBalance(String name) {
+    private static void checkBalance(CiderShop shop, String name) {
         int gone = 0;
         for (int what = 2; what <= 10; what++) {
             gone += shop.account(what);
         }
         Check.due(name + "both ways", gone, shop.account(0) + shop.account(1));
-        for (int tank = 0; tank < shop.count(1); tank++) {
+        int tanks = shop.count(1);
+        for (int tank = 0; tank < tanks; tank++) {
             int juice = shop.tank(tank, 1);
             Check.due(name + "haze is a part of the juice", shop.tank(tank, 4) <= juice ? 1 : 0, 1);
             Check.due(name + "room", shop.tank(tank, 0) - juice - shop.tank(tank, 5), shop.tank(tank, 7));
@@ -154,6 +185,8 @@ public final class RandomRunsTest {
             case 13:
             case 14:
                 return Shops.run(shop, script(c));
+            case UNDO:
+                return shop.undo();
             default:
                 return shop.day();
         }
@@ -169,17 +202,6 @@ public final class RandomRunsTest {
         return text.length() <= 100 ? text.toString() : "";
     }
 
-    /** A shop to which all has been done that has not been undone. */
-    private CiderShop again() {
-        CiderShop other = new CiderShop();
-        for (int[] call : calls) {
-            make(other, call);
-        }
-        other.clearText();
-        Check.due("done again", Shops.state(other), Shops.state(shop));
-        return other;
-    }
-
     private int daysByLiving(int tank, int label) {
         CiderShop other = again();
         for (int days = 0; days <= 60; days++) {
@@ -192,15 +214,18 @@ public final class RandomRunsTest {
     }
 
     private int amountByMoving(int from, int to, int label) {
+        CiderShop shop = again();
         if (shop.why(to, label) == 0) {
             return 0;
         }
-        CiderShop other = again();
-        int most = Math.min(other.tank(from, 1), other.tank(to, 7));
+        int most = Math.min(shop.tank(from, 1), shop.tank(to, 7));
         for (int amount = 1; amount <= most; amount++) {
-            Check.due("move goes", other.move(from, amount, to) >= 0 ? 1 : 0, 1);
-            int why = other.why(to, label);
-            other.undo();
+            if (amount % 80 == 0) {
+                shop = again();
+            }
+            Check.due("move goes", shop.move(from, amount, to) >= 0 ? 1 : 0, 1);
+            int why = shop.why(to, label);
+            shop.undo();
             if (why == 0) {
                 return amount;
             }

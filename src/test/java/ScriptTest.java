@@ -110,21 +110,21 @@ public final class ScriptTest {
     }
 
     private static void commandsFail() {
-        CiderShop shop = Shops.small();
-        String before = Shops.state(shop);
+        String before = Shops.state(Shops.small());
         String[] texts = {"press 8 1 0;", "day;press 0 1001 0;", "day;day;wet 5 0;",
             "press 0 900 0;press 0 1 0;clean 0;",
             "bottle 0 0 1 1;day;", "day;day;day;rack 0 1;", "move 0 1 1;", "press 0 500 0;day;clean 9;day;"};
         int[] numbers = {0, 1, 2, 2, 0, 3, 0, 2};
-        int[] reasons = {0, 11, 12, 13, 1, 1, 7, 7};
+        int[] reasons = {0, 11, 12, 13, 1, 1, 7, 0};
         for (int i = 0; i < texts.length; i++) {
+            CiderShop shop = Shops.small();
             Check.due("18: " + texts[i], Shops.run(shop, texts[i]), -1000 - numbers[i]);
             Check.due("18: reason", shop.count(4), reasons[i]);
             Check.due("18: nothing else changes", Shops.state(shop), before);
             Check.due("18: the text is kept", shop.count(5), texts[i].length());
             Check.due("18: nothing is saved", shop.count(6), 3);
+            Check.due("18: the kept text fails again", shop.runScript(), -1000 - numbers[i]);
         }
-        Check.due("18: the kept text fails again", shop.runScript(), -1002);
     }
 
     private static void reasonOfScript() {

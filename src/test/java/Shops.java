@@ -91,7 +91,10 @@ final class Shops {
         }
     }
 
-    /** A saved state as far as it can be seen: everything but the text, the reason and the number of saved states. */
+    /**
+     * A saved state as far as it can be seen: everything but the text, the reason and the number of saved states. It
+     * takes up to 170 calls of the 512 that an object is used for.
+     */
     static String state(CiderShop shop) {
         StringBuilder seen = new StringBuilder();
         for (int what = 0; what <= 10; what++) {
@@ -106,11 +109,13 @@ final class Shops {
             }
         }
         seen.append("| ");
-        for (int lot = 0; lot < shop.count(0); lot++) {
+        int lots = shop.count(0);
+        for (int lot = 0; lot < lots; lot++) {
             seen.append(shop.lot(lot, 0)).append(' ').append(shop.lot(lot, 1)).append(' ');
         }
         seen.append("| ");
-        for (int tank = 0; tank < shop.count(1); tank++) {
+        int tanks = shop.count(1);
+        for (int tank = 0; tank < tanks; tank++) {
             for (int what = 0; what <= 7; what++) {
                 seen.append(shop.tank(tank, what)).append(' ');
             }

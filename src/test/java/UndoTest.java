@@ -41,11 +41,10 @@ public final class UndoTest {
         Check.due("29: the label is restored", shop.setLabel(2, 0, 1000, 0, 1000, 20), 0);
     }
 
-    private static void sixStates() {
+    /** After so many steps: each third one buys, which goes eight times; the others let a day pass. */
+    private static CiderShop after(int steps) {
         CiderShop shop = new CiderShop();
-        String[] states = new String[30];
-        for (int i = 0; i < 30; i++) {
-            states[i] = Shops.state(shop);
+        for (int i = 0; i < steps; i++) {
             Check.due("29: saved", shop.count(6), Math.min(i, 6));
             if (i % 3 == 0) {
                 shop.buy(i % 6, i + 1);
@@ -53,15 +52,26 @@ public final class UndoTest {
                 shop.day();
             }
         }
-        // the lots were full from the ninth purchase on: 28 edits
-        int edits = 28;
-        Check.due("29: saved at most", shop.count(6), 6);
-        Check.due("29: days", shop.count(3), edits - 8);
-        for (int left = 5; left >= 0; left--) {
-            Check.due("29: undo", shop.undo(), left);
+        return shop;
+    }
+
+    private static void sixStates() {
+        for (int steps = 0; steps <= 24; steps++) {
+            CiderShop shop = after(steps);
+            int saved = Math.min(steps, 6);
+            for (int back = 1; back <= saved; back++) {
+                Check.due("29: undo", shop.undo(), saved - back);
+                if (back == 1 || back == saved) {
+                    Check.due("29: back", Shops.state(shop), Shops.state(after(steps - back)));
+                }
+            }
+            Check.due("29: none left", shop.undo(), Shops.ILLEGAL);
         }
-        Check.due("29: none left", shop.undo(), Shops.ILLEGAL);
-        Check.due("29: six back", Shops.state(shop), states[22]);
+        // a ninth lot is refused, and saves nothing
+        CiderShop shop = after(25);
+        Check.due("29: days", shop.count(3), 16);
+        Check.due("29: undo goes to before the last day", shop.undo(), 5);
+        Check.due("29: days", shop.count(3), 15);
     }
 
     private static void refusedCallsSaveNothing() {
